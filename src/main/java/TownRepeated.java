@@ -212,7 +212,7 @@ public final class TownRepeated {
         if (!now.isError(i) || is < 0 || is > 1) {
             return BAD;
         }
-        if (now.errorTrait(i, 4) == is) {
+        if (now.isMended(i) == (is == 1)) {
             return STATE;
         }
         if (!now.hasTurnsLeft(1)) {
@@ -222,13 +222,13 @@ public final class TownRepeated {
         return Integer.bitCount(now.mended);
     }
 
-    public int err(int told, int by) {
-        if (told < 0 || by < 1 || by >= DEEDS) {
+    public int err(int where, int by) {
+        if (where < 0 || by < 1 || by >= DEEDS) {
             return BAD;
         }
-        int town = told / 1000;
-        int day = told % 1000 / 10;
-        int person = told % 10;
+        int town = where / 1000;
+        int day = where % 1000 / 10;
+        int person = where % 10;
         if (!isTown(town) || !isDay(day) || !now.isPerson(person)) {
             return BAD;
         }
@@ -873,6 +873,10 @@ public final class TownRepeated {
             return i >= 0 && i < errors;
         }
 
+        boolean isMended(int i) {
+            return (mended >> i & 1) != 0;
+        }
+
         boolean isOfKind(int p, int asked) {
             return isPerson(p) && isAlso(kind[p], asked);
         }
@@ -942,7 +946,7 @@ public final class TownRepeated {
                 case 3:
                     return errorBy[i];
                 default:
-                    return (mended >> i) & 1;
+                    return isMended(i) ? 1 : 0;
             }
         }
 

@@ -145,6 +145,12 @@ public final class AsideTest {
         // Twice it in TOWN 0, less 2, 4, 6, 8 in the others: 0/1 1/2 2/2 3/0 4/4 0/0 1/0 2/8 3/2 4/8 0/8
         // 1/6 2/0 3/6 4/6 0/4 1/8 2/4 3/4 4/2 0/6 1/2.
         Check.dueAsked("of one by 2", x, x.letter(0, 2, 1), 21, 20);
+        // In TOWN 0 1 on DAY 10, 2 from DAY 11 on; a DAY later in each TOWN: 0/0 1/1 2/1 3/0 4/0 0/0, and
+        // 0/1 1/2 2/2 3/1 4/0 0/0 1/1 2/1 3/0 4/0.
+        TownRepeated y = Check.chainOf("p00x0K01x0L01");
+        Check.dueAsked("the DAY 10 and the DEED 0", y, y.letter(0, 0, 0), 5, 5);
+        Check.dueAsked("the DAY 10 and the DEED 1", y, y.letter(0, 0, 1), 9, 5);
+        x.letter(0, 2, 1);
         int[][] bad = {{-1, 0, 0}, {5, 0, 0}, {0, 3, 0}, {0, -1, 0}, {0, 0, 10}, {0, 0, -1}};
         for (int[] b : bad) {
             Check.due("letter BAD", x.letter(b[0], b[1], b[2]), TownRepeated.BAD);

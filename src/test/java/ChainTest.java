@@ -67,6 +67,11 @@ public final class ChainTest {
         Check.due("mark of a DRIFTER, MENDED", x.mark(0, 1), 4);
         // DAYS 16 to 19: only 18 is divided by 3.
         Check.due("mark of a SPY as a DRIFTER", x.mark(1, 1), 5);
+        TownRepeated y = Check.chainOf("d13x0R02x3S06");
+        // 1 and 45 in TOWN 0 on DAY 15: 6; in TOWN 4 on DAY 19 6 and 4 and 6.
+        Check.due("mark of a DRIFTER from 6 to 6", y.mark(0, 1), 0);
+        y.mend(1, 1);
+        Check.due("mark of a DRIFTER from 6 to 0", y.mark(0, 1), 4);
         // TOWN 1 on DAY 16 is on the way to TOWN 4 on DAY 19.
         Check.due("mark by an error on the way", x.mark(2, 1), 0);
     }
@@ -88,6 +93,9 @@ public final class ChainTest {
         // 19 in TOWN 0 is 9; TOWNS 1 to 4: 9 less 8, 7, 9 less 6, 5.
         TownRepeated x = Check.chainOf("l01");
         Check.due("mark of a LEFT one that goes on", x.mark(0, 3), 0);
+        // DAY 19 5; TOWN 1 9 less 4, 2 3, 3 9 less 2, 4 1.
+        TownRepeated z = Check.chainOf("l61");
+        Check.due("mark of a LEFT one alike in TOWN 1", z.mark(0, 3), 1);
         // 5 more each day: DAY 19 6; TOWN 1 by 1 8, TOWN 2 by 6 6, TOWN 3 by 1 8, TOWN 4 by 6 6.
         TownRepeated y = Check.chainOf("l15");
         Check.due("mark of a LEFT one by 5", y.mark(0, 3), 2);

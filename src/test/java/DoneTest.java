@@ -95,6 +95,10 @@ public final class DoneTest {
         TownRepeated x = Check.chainOf("p00d00p00x1D03x1F04x0C25");
         Check.dueAsked("since(0, 1, 0)", x, x.since(0, 1, 0), 3, 2);
         Check.dueAsked("since(0, 4, 0)", x, x.since(0, 4, 0), 6, 2);
+        x.mend(0, 1);
+        Check.dueAsked("once: since(0, 2, 0)", x, x.since(0, 2, 0), 6, 1);
+        x.mend(0, 0);
+        x.since(0, 4, 0);
         Check.due("never: since(1, 4, 0)", x.since(1, 4, 0), TownRepeated.NONE);
         Check.due("never: since(0, 4, 2)", x.since(0, 4, 2), TownRepeated.NONE);
         Check.due("asked() as ahead", x.asked(), 2);

@@ -139,6 +139,8 @@ public final class RowsTest {
         Check.dueAsked("mean of the greatest", x, x.mean(0), 1, Integer.MAX_VALUE);
         Check.rowOf(x, 0, Integer.MIN_VALUE, Integer.MIN_VALUE);
         Check.dueAsked("mean of the least", x, x.mean(0), 1, Integer.MIN_VALUE);
+        Check.rowOf(x, 0, Integer.MIN_VALUE);
+        Check.dueAsked("mean of one", x, x.mean(0), 1, Integer.MIN_VALUE);
         x.row(1, 0);
         Check.due("mean(6)", x.mean(6), TownRepeated.BAD);
         Check.due("mean(-1)", x.mean(-1), TownRepeated.BAD);

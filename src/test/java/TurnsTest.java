@@ -90,6 +90,8 @@ public final class TurnsTest {
         Check.due("day is FULL", x.day(), TownRepeated.FULL);
         Check.due("lots is FULL", x.lots(1, 1), TownRepeated.FULL);
         Check.due("undo(39)", x.undo(39), 1);
+        Check.due("err as the 40th", x.err(0, 1), 1);
+        Check.due("undo(39) again", x.undo(39), 1);
         Check.due("day goes by", x.day(), 1);
         Check.due("undo(20)", x.undo(20), 20);
         for (int d = 1; d <= 19; d++) {
@@ -173,13 +175,26 @@ public final class TurnsTest {
         x.undo(0);
         Check.due("on(2) anew", x.on(2), 4);
         Check.due("TODAY", x.count(3), 2);
+        x.undo(0);
+        x.day();
+        x.day();
+        x.day();
+        x.day();
+        Check.due("on(2) from other TURNS", x.on(2), 4);
+        Check.due("the kept TURNS are undone: a DAY", x.undo(3), 1);
+        Check.due("TODAY then", x.count(3), 1);
+        Check.due("the kept TURNS are undone: an ERROR", x.undo(2), 1);
+        Check.due("ERRORS then", x.count(1), 1);
+        Check.due("the kept TURNS are undone: all", x.undo(0), 2);
+        Check.due("MENDED then", x.count(2), 0);
+        x.on(2);
         x.undo(3);
         x.keep(2);
-        Check.due("digest as then", x.digest(), then31(then));
+        Check.due("digest as then", x.digest(), theSameWay(then));
     }
 
     /** The digest then was told ahead of keep(2): it is made anew in an object that went the same way. */
-    private static long then31(long then) {
+    private static long theSameWay(long then) {
         TownRepeated x = Check.chainOf("p03z00x0A01");
         x.keep(1);
         x.stride(0, 7);
