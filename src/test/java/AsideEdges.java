@@ -32,6 +32,10 @@ final class AsideEdges {
         of.anew().chain("f50").asks(1, 1, "warn", 1, 1, 0, 5).asks(2, 2, "warn", 2, 2, 0, 5).asks(4, 4, "warn", 4, 4, 0, 5)
             .days(5).none("warn", 4, 4, 0, 5);
         of.anew().chain("f60").asks(1, 1, "warn", 4, 4, 0, 6);
+        // 5 on DAYS 8 and 9 in TOWN 0; 3 and 2 more in TOWN 1 on DAY 9.
+        of.anew().chain("f11").asks(10, 2, "warn", 2, 10, 0, 5).asks(11, 2, "warn", 2, 11, 0, 5).asks(11, 1, "warn", 2, 12, 0, 6);
+        of.anew().chain("f13").asks(18, 2, "warn", 2, 18, 0, 5);
+        of.anew().chain("f30x1J02").asks(11, 3, "warn", 3, 11, 0, 5).asks(8, 1, "warn", 3, 10, 0, 3).asks(10, 1, "warn", 3, 12, 0, 3);
         of.anew().chain("l30d30").asks(4, 1, "warn", 3, 6, 0, 6).asks(4, 1, "warn", 3, 6, 1, 6);
         // 12 ERRORS are no hindrance, nor are 40 TURNS.
         of.anew().chain("p00").errors(12, 1010, 5).asks(1, 1, "warn", 1, 1, 0, 0).due(12, "count", 1);
@@ -119,6 +123,9 @@ final class AsideEdges {
         of.anew().chain("p01").asks(5, 5, "letter", 0, 0, 0).asks(5, 5, "letter", 0, 0, 9).asks(5, 5, "letter", 3, 0, 7);
         // In TOWN 0 each is 1 more than it: 0/0 1/1 2/1 3/0 4/8 0/5; a round is 5 more, so there are two.
         of.anew().chain("p11").asks(10, 10, "letter", 0, 0, 0).asks(10, 10, "letter", 0, 0, 5).asks(10, 10, "letter", 0, 0, 1);
+        // A LEFT one: 1 more a round, so all TOWNS with all DEEDS: no letter is sent on more often.
+        of.anew().chain("l11").asks(50, 50, "letter", 0, 0, 0).asks(50, 50, "letter", 4, 0, 9);
+        of.anew().chain("l21x1T07").asks(50, 25, "letter", 2, 0, 9);
         // On DAY 10 another than on DAYS 11 to 19.
         of.anew().chain("p00x0K01x0L01").asks(5, 5, "letter", 0, 0, 0).asks(9, 5, "letter", 0, 0, 1);
         // DAY 19 is the last that is written: 0/0 1/9 2/9 3/9 4/9 0/9 1/8 2/9, and 0/9 1/8 2/9 3/9 4/9 0/9.

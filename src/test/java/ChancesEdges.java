@@ -32,6 +32,10 @@ final class ChancesEdges {
         of.anew().chain("p00").errors(12, 0, 1).tells(1711870023667L, 8916100448256L, "odds", 0, 0, 0, 2, 1)
             .tells(67, 4096, "odds", 4, 19, 0, 2, 6).tells(1, 1, "odds", 0, 0, 0, 2, 12).tells(0, 1, "odds", 0, 0, 0, 0, 12)
             .tells(3138428376721L + 66 * 121, 8916100448256L, "odds", 0, 0, 0, 0, 1);
+        // ERROR 0 is on the way of TOWN 2 on DAY 5, 1 from DAY 3 in TOWN 0 on, 2 on that of TOWN 3 on DAY 10.
+        of.anew().chain("p00p00x2F03x0D04x3K02").tells(1, 16, "odds", 2, 5, 0, 7, 3).tells(3, 16, "odds", 2, 5, 0, 3, 3)
+            .tells(9, 16, "odds", 2, 5, 0, 0, 3).tells(1, 1, "odds", 2, 4, 0, 0, 3).tells(1, 4, "odds", 2, 6, 0, 4, 3)
+            .tells(1, 16, "odds", 4, 11, 0, 6, 3).tells(3, 4, "odds", 3, 11, 0, 0, 3).tells(1, 1, "odds", 4, 11, 1, 0, 3);
         // Whether the first happens or not, a FOOL DOES 5 in TOWN 2.
         of.anew().chain("f50x1B05x2C05").tells(1, 4, "odds", 2, 2, 0, 5, 9).tells(3, 4, "odds", 2, 2, 0, 0, 9);
     }

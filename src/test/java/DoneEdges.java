@@ -50,6 +50,9 @@ final class DoneEdges {
             .asks(1, 19, "since", 0, 1, 0).asks(4, 16, "since", 3, 4, 0).asks(4, 16, "since", 0, 4, 0)
             .asks(19, 1, "since", 0, 4, 1).asks(19, 1, "since", 3, 4, 1).asks(4, 1, "since", 0, 4, 2)
             .asks(3, 2, "since", 0, 1, 3).asks(4, 3, "since", 0, 2, 3).asks(10, 1, "since", 1, 2, 3).asks(6, 3, "since", 0, 4, 3);
+        Edge.of(24, "The first DAY on which two TOWNS (t the lesser number) DIFFER in a PERSON;")
+            .chain("p00p00p00p00d00").asks(1, 19, "since", 0, 1, 4).asks(2, 18, "since", 1, 2, 4).asks(4, 16, "since", 1, 4, 4)
+            .none("since", 0, 1, 3);
         Edge.of(24, "NONE: never.")
             .chain("p31l00p00x4D21x4E29x1B23").asks(1, 19, "since", 0, 1, 1).none("since", 0, 4, 0).none("since", 0, 2, 1)
             .none("since", 3, 4, 0).none("since", 2, 3, 2).asks(4, 1, "since", 3, 4, 2).asks(4, 1, "since", 0, 4, 2)

@@ -13,13 +13,15 @@ import java.util.TreeMap;
  * The sentences are kept, so that EdgesTest can tell whether any of the document has none.
  */
 final class Edge {
-    static final int TERMS = 0;
+    static final int WHOLE = -1, TERMS = 0;
     static final int NOTHING = 1, BEYOND = 2, UNLIKE = 3, NOUGHT = 4, SIZE = 5;
     static final int LEAST = Integer.MIN_VALUE, GREATEST = Integer.MAX_VALUE;
+    static final int MOST_CALLS = 512;
 
-    /** The sentences by the number of their promise (TERMS: ahead of the promises). */
+    /** The sentences by the number of their promise (WHOLE, TERMS: ahead of the promises). */
     static final Map<Integer, List<String>> SENTENCES = new TreeMap<>();
 
+    private static final int LOOKS_OF_ONE = 2, PERSONS = 5, PLACES = 3, LONGEST_LOOK = 1 + 2 + 5 * 20;
     private static final Map<String, Method> FACE = face();
     private static final Set<String> ASKING = Set.of("at", "mean", "fault", "person", "error", "mark", "does", "differ",
         "since", "worst", "source", "together", "warn", "agree", "next", "letter", "fits", "sure", "lies", "odds", "asked",
@@ -36,6 +38,7 @@ final class Edge {
     private final String where;
     private final List<Call> past = new ArrayList<>();
     private final TownRepeated x = new TownRepeated();
+    private int calls = 0;
 
     private Edge(String where) {
         this.where = where;
@@ -43,7 +46,7 @@ final class Edge {
 
     static Edge of(int promise, String sentence) {
         SENTENCES.computeIfAbsent(promise, k -> new ArrayList<>()).add(sentence);
-        return new Edge((promise == TERMS ? "terms" : "promise " + promise) + ", '" + sentence + "'");
+        return new Edge((promise < 1 ? "terms" : "promise " + promise) + ", '" + sentence + "'");
     }
 
     /** The same sentence on another new object. */
@@ -74,13 +77,19 @@ final class Edge {
         return answer(x, new Call(name, values));
     }
 
+    /** All that is asked of the one object is counted, as an object is promised for 512 calls alone. */
+    private long ask(String name, int... values) {
+        calls++;
+        Check.due(where + ": so many calls", calls <= MOST_CALLS ? 1 : 0, 1);
+        return answer(x, name, values);
+    }
+
     /** A call with the answer that is due; one that only asks changes nothing. */
     Edge due(long want, String name, int... values) {
         Call call = new Call(name, values);
-        long digest = x.digest();
-        Check.due(where + ": " + call, answer(x, call), want);
+        Check.due(where + ": " + call, ask(name, values), want);
         if (ASKING.contains(name)) {
-            Check.due(where + ": " + call + " changed the digest", x.digest(), digest);
+            Check.due(where + ": " + call + " changed the digest", again(call).digest(), again().digest());
         }
         past.add(call);
         return this;
@@ -89,15 +98,15 @@ final class Edge {
     /** A call with its answer, and what is told by asked() then. */
     Edge asks(long want, long asked, String name, int... values) {
         due(want, name, values);
-        Check.due(where + ": " + new Call(name, values) + ", asked()", x.asked(), asked);
+        Check.due(where + ": " + new Call(name, values) + ", asked()", ask("asked"), asked);
         return this;
     }
 
     /** A call that answers 1, and what is told by upper(), lower() then. */
     Edge tells(long upper, long lower, String name, int... values) {
         due(1, name, values);
-        Check.due(where + ": " + new Call(name, values) + ", upper()", x.upper(), upper);
-        Check.due(where + ": " + new Call(name, values) + ", lower()", x.lower(), lower);
+        Check.due(where + ": " + new Call(name, values) + ", upper()", ask("upper"), upper);
+        Check.due(where + ": " + new Call(name, values) + ", lower()", ask("lower"), lower);
         return this;
     }
 
@@ -184,7 +193,7 @@ final class Edge {
 
     /** DAYS go by up to one. */
     Edge days(int last) {
-        for (int d = x.count(3) + 1; d <= last; d++) {
+        for (int d = (int) ask("count", 3) + 1; d <= last; d++) {
             due(d, "day");
         }
         return this;
@@ -192,7 +201,7 @@ final class Edge {
 
     /** So many ERRORS more, each told the same. */
     Edge errors(int many, int told, int by) {
-        int there = x.count(1);
+        int there = (int) ask("count", 1);
         for (int i = 0; i < many; i++) {
             due(there + i, "err", told, by);
         }
@@ -201,7 +210,7 @@ final class Edge {
 
     /** So many TURNS more: ERROR i is MENDED, is one again, and so on. */
     Edge mends(int many, int i) {
-        int others = x.count(2);
+        int others = (int) ask("count", 2);
         for (int n = 0; n < many; n++) {
             due(others + 1 - n % 2, "mend", i, 1 - n % 2);
         }
@@ -215,36 +224,34 @@ final class Edge {
     private Edge changesNothing(int want, int finding, String name, int... values) {
         Call call = new Call(name, values);
         String what = where + ": " + call;
-        long[] often = new long[SIZE + 1];
+        Check.due(what, ask(name, values), want);
+        TownRepeated ahead = again();
+        TownRepeated behind = again(call);
+        Check.due(what + ", finding()", behind.finding(), finding == 0 ? ahead.finding() : finding);
         for (int f = 1; f <= SIZE; f++) {
-            often[f] = x.findings(f) + (f == finding ? 1 : 0);
+            Check.due(what + ", findings(" + f + ")", behind.findings(f), ahead.findings(f) + (f == finding ? 1 : 0));
         }
-        int latest = finding == 0 ? x.finding() : finding;
-        Check.due(what, answer(x, call), want);
-        Check.due(what + ", finding()", x.finding(), latest);
-        for (int f = 1; f <= SIZE; f++) {
-            Check.due(what + ", findings(" + f + ")", x.findings(f), often[f]);
-        }
-        int looks = looks(again());
+        Check.due(where + ": so many calls", past.size() + LONGEST_LOOK <= MOST_CALLS ? 1 : 0, 1);
+        int looks = looks(ahead);
         for (int look = 0; look < looks; look++) {
-            TownRepeated called = again();
-            answer(called, call);
-            boolean same = look(again(), look).equals(look(called, look));
+            boolean same = look(again(), look).equals(look(again(call), look));
             Check.due(what + " changed what there is, by look " + look, same ? 0 : 1, 0);
         }
         past.add(call);
         return this;
     }
 
-    private TownRepeated again() {
+    /** An object that went the same way, and on by these calls. */
+    private TownRepeated again(Call... on) {
         TownRepeated other = new TownRepeated();
         for (Call call : past) {
             answer(other, call);
         }
+        for (Call call : on) {
+            answer(other, call);
+        }
         return other;
     }
-
-    private static final int LOOKS_OF_ONE = 2, PERSONS = 5, PLACES = 3;
 
     /** A look is short, as an object is promised for 512 calls alone: so there are many of them. */
     private static int looks(TownRepeated x) {

@@ -30,16 +30,19 @@ public final class EdgesTest {
         ChancesEdges.run();
         ToldEdges.run();
         Map<Integer, String> paragraphs = paragraphs(Files.readString(DOCUMENT));
-        Check.due("promises in the document", paragraphs.size(), 1 + 43);
+        Check.due("promises in the document", paragraphs.size(), 2 + 43);
         for (Map.Entry<Integer, String> paragraph : paragraphs.entrySet()) {
             allSaid(paragraph.getKey(), paragraph.getValue());
         }
         Check.end();
     }
 
-    /** What each promise says behind its head, by its number; the terms by Edge.TERMS. */
+    /** What each promise says behind its head, by its number; what is said ahead by Edge.WHOLE, Edge.TERMS. */
     private static Map<Integer, String> paragraphs(String document) {
         Map<Integer, String> all = new TreeMap<>();
+        Matcher whole = Pattern.compile("(?m)^An object is used .*$").matcher(document);
+        Check.due("how often it is used is found", whole.find() ? 1 : 0, 1);
+        all.put(Edge.WHOLE, plain(whole.group()));
         Matcher terms = Pattern.compile("(?s)## Terms\\n(.*?)\\n## Promise 1:").matcher(document);
         Check.due("the terms are found", terms.find() ? 1 : 0, 1);
         String said = terms.group(1).replaceAll("(?m)^Ahead of the calls .*$", "").replaceAll("```(text)?", "");

@@ -5,6 +5,7 @@ final class FitsEdges {
 
     static void run() {
         fits();
+        fitsOnTheWay();
         fitsMended();
         sure();
         lies();
@@ -45,8 +46,25 @@ final class FitsEdges {
         fit(twelve.row(0, 0, 0, 0, 1), 0, 1, 24);
         fit(twelve.due(40, "row", 0, 40), 0, 0, 67);
         fit(twelve.due(1, "lay", 0, 39, 1), 0, -9, 0);
-        // A mean between would tell another asked(): the latest fits() tells anew.
+        // What odds() told is told anew by fits().
         fit(of.anew().chain("p00x0A01").row(0, 0, 0, 0, 1).tells(1, 2, "odds", 0, 0, 0, 1, 6), 0, 1, 1);
+    }
+
+    /** ERROR 0 is on the way of TOWN 2 on DAY 5, 1 from DAY 3 in TOWN 0 on, 2 on that of TOWN 3 on DAY 10. */
+    private static void fitsOnTheWay() {
+        Edge of = Edge.of(32, "so that all in a ROW is as told, if just these are not MENDED").chain("p00p00x2F03x0D04x3K02");
+        fit(of.row(0, 2, 5, 0, 7), 0, 1 + 2, 2).asks(1 + 2, 0, "sure", 0);
+        fit(of.row(0, 2, 5, 0, 3), 0, 1, 2).asks(1, 2, "sure", 0);
+        fit(of.row(0, 2, 6, 0, 4), 0, 2, 4);
+        fit(of.row(0, 2, 4, 0, 0), 0, 0, 8);
+        fit(of.row(0, 2, 4, 0, 3), 0, -9, 0);
+        fit(of.row(0, 0, 2, 0, 0), 0, 0, 8);
+        fit(of.row(0, 0, 3, 0, 0), 0, 0, 4);
+        fit(of.row(0, 0, 3, 0, 4), 0, 2, 4);
+        fit(of.row(0, 4, 11, 0, 6), 0, 2 + 4, 2).asks(2 + 4, 0, "sure", 0);
+        fit(of.row(0, 4, 11, 0, 6, 4, 7, 0, 4), 0, 2 + 4, 1).asks(2 + 4, 1, "sure", 0);
+        fit(of.row(0, 4, 11, 1, 0), 0, 0, 8);
+        fit(of.row(0, 4, 11, 1, 6), 0, -9, 0);
     }
 
     private static void fitsMended() {

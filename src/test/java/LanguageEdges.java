@@ -127,7 +127,9 @@ final class LanguageEdges {
 
     private static void faults() {
         Edge.of(Edge.TERMS, "A FAULT is the first place at which it can't go on so")
-            .faults(1, "pqqxxx").faults(0, "qpp").faults(4, "p00 q00 q00").faults(5, "p00x0aaa").faults(2, "  qp0 x");
+            .faults(1, "pqqxxx").faults(0, "qpp").faults(4, "p00 q00 q00").faults(5, "p00x0aaa").faults(2, "  qp0 x")
+            .faults(9, "p00 d00 xUA01").faults(10, "p00 d00 x0U01").faults(11, "p00 d00 x0A21").faults(12, "p00 d00 x0A10")
+            .faults(15, "p00 d00 x0A11 xA").faults(6, "p00  dx0").faults(7, "p00  d0x");
         Edge.of(Edge.TERMS, "(a letter, a figure that is none such,")
             .faults(0, "q00").faults(3, "p00a").faults(0, "000").faults(1, "pa0").faults(2, "p0a").faults(4, "p00x50")
             .faults(5, "p00x0u").faults(7, "p00x0A0x");

@@ -4,12 +4,29 @@ final class TermsEdges {
     }
 
     static void run() {
+        calls();
         order();
         none();
         refusedChangesNothing();
         findings();
         lowestTerms();
         bits();
+    }
+
+    /** Not one call fewer, whether they are refused or not. */
+    private static void calls() {
+        Edge.of(Edge.WHOLE, "An object is used for at most 512 calls after it has been made; what later calls answer is free.");
+        TownRepeated x = new TownRepeated();
+        for (int n = 1; n <= 510; n++) {
+            Check.due("call " + n + ": tear(0)", x.tear(0), TownRepeated.FINDING);
+        }
+        Check.due("call 511: findings(1)", x.findings(Edge.NOTHING), 510);
+        Check.due("call 512: row(5, 40)", x.row(5, 40), 40);
+        TownRepeated y = new TownRepeated();
+        Check.due("call 1: row(0, 1)", y.row(0, 1), 1);
+        for (int n = 2; n <= 512; n++) {
+            Check.due("call " + n + ": lay(0, 0, ..)", y.lay(0, 0, n), 1);
+        }
     }
 
     private static void order() {

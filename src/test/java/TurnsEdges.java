@@ -123,6 +123,12 @@ final class TurnsEdges {
             .due(3, "on", 1).counts(2, 1, 0, 3, 3, 1, 0, 1, 1).due(1, "undo", 2).due(2, "count", 3)
             .due(3, "on", 1).counts(2, 1, 0, 3, 3).mends(37, 0).full("day").due(40, "keep", 1).due(40, "undo", 0)
             .due(40, "on", 1).full("day").due(1, "count", 2).due(37, "undo", 3).due(0, "count", 2).due(3, "count", 3);
+        // What was done since leaves no trace in the TURNS that are undone then.
+        Edge.of(21, "The CHAIN is as it was kept: how many TURNS.")
+            .chain("p00x0A01").days(2).errors(1, 0, 5).due(1, "mend", 0, 1).due(4, "keep", 0).due(4, "undo", 0)
+            .due(1, "mend", 0, 1).errors(3, 10, 1).days(1).due(4, "on", 0).due(1, "undo", 3).counts(1, 2, 0, 2, 3)
+            .isError(1, 0, 0, 0, 5, 0).due(1, "undo", 2).counts(1, 1, 0, 2, 2).due(1, "undo", 1).counts(1, 1, 0, 1, 1)
+            .due(1, "undo", 0).counts(1, 1, 0, 0, 0);
         Edge.of(21, "BAD;").bad("on", -1).bad("on", 3).chain("p00").due(0, "keep", 0).due(0, "keep", 2)
             .bad("on", -1).bad("on", 3).bad("on", Edge.LEAST).bad("on", Edge.GREATEST).due(0, "on", 0).due(0, "on", 2);
         Edge.of(21, "NOTHING.")
