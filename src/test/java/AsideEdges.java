@@ -35,6 +35,7 @@ final class AsideEdges {
         // 5 on DAYS 8 and 9 in TOWN 0; 3 and 2 more in TOWN 1 on DAY 9.
         of.anew().chain("f11").asks(10, 2, "warn", 2, 10, 0, 5).asks(11, 2, "warn", 2, 11, 0, 5).asks(11, 1, "warn", 2, 12, 0, 6);
         of.anew().chain("f13").asks(18, 2, "warn", 2, 18, 0, 5);
+        of.anew().chain("p00p00p00p00f50").asks(2, 2, "warn", 2, 2, 4, 5).asks(1, 1, "warn", 2, 2, 3, 0);
         of.anew().chain("f30x1J02").asks(11, 3, "warn", 3, 11, 0, 5).asks(8, 1, "warn", 3, 10, 0, 3).asks(10, 1, "warn", 3, 12, 0, 3);
         of.anew().chain("l30d30").asks(4, 1, "warn", 3, 6, 0, 6).asks(4, 1, "warn", 3, 6, 1, 6);
         // 12 ERRORS are no hindrance, nor are 40 TURNS.
