@@ -12,6 +12,8 @@ public final class AnyArgumentsTest {
     private static final int[] ODD = {Integer.MIN_VALUE, Integer.MIN_VALUE + 1, -1000, -10, -9, -2, -1, 0, 1, 2, 3, 4, 5,
         6, 9, 10, 11, 12, 13, 19, 20, 31, 32, 33, 40, 41, 60, 61, 199, 200, 4194, 5000, 65536,
         Integer.MAX_VALUE - 1, Integer.MAX_VALUE};
+    /** The call itself, and the digest and what is told ahead of it and behind. */
+    private static final int CALLS_OF_ONE = 1 + 2 * (1 + 3);
     private static final String[] CHAINS = {"", "p00", "d12s34f50l78z99x0A01x1B11x2C22x3D33x4E44x4T09",
         "f55x0A05x0B05x1B05x2C05x3D05x4E05"};
 
@@ -23,10 +25,12 @@ public final class AnyArgumentsTest {
             }
         }
         all.sort(Comparator.comparing(Method::getName));
-        for (int run = 0; run < 400; run++) {
+        for (int run = 0; run < 3200; run++) {
             Random random = new Random(run);
-            TownRepeated x = CHAINS[run % 4].isEmpty() ? new TownRepeated() : Check.chainOf(CHAINS[run % 4]);
-            for (int n = 0; n < 400; n++) {
+            String chain = CHAINS[run % 4];
+            TownRepeated x = chain.isEmpty() ? new TownRepeated() : Check.chainOf(chain);
+            int looked = (Edge.MOST_CALLS - chain.length() - 3) / CALLS_OF_ONE;
+            for (int n = 0; n < looked; n++) {
                 call(x, all.get(random.nextInt(all.size())), random);
             }
         }

@@ -13,9 +13,9 @@ public final class DoneTest {
     }
 
     private static void doesByKind() {
-        TownRepeated x = Check.chainOf("p31d02z73l94s51");
-        TownRepeated fool = Check.chainOf("f05f91");
         for (int t = 0; t < 5; t++) {
+            TownRepeated x = Check.chainOf("p31d02z73l94s51");
+            TownRepeated fool = Check.chainOf("f05f91");
             for (int d = 0; d < 20; d++) {
                 String where = " in TOWN " + t + " on DAY " + d;
                 int ago = d - t;

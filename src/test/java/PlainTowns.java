@@ -345,6 +345,10 @@ final class PlainTowns {
         return deedIf(t, d, p, bitsOf(open()));
     }
 
+    boolean isMended(int i) {
+        return now.mended.contains(i);
+    }
+
     /** Tables are good for one call alone: the next may change what there is. */
     void forget() {
         tables.clear();
