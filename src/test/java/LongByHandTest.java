@@ -1,6 +1,6 @@
 /**
  * One run of just 512 calls on one object with answers found by hand: each PERSON (DEED 0, STRIDE 0) DOES as many as
- * it has ERRORS till then, as ERROR i is in TOWN 0 on DAY i, of PERSON i modulo 5, by 1. Behind call 369 the one
+ * it has ERRORS till then, as ERROR i is in TOWN 0 on DAY i, of PERSON i modulo 5, by 1. Behind call 371 the one
  * PERSON is a LEFT one that goes back by 1 each DAY.
  */
 public final class LongByHandTest {
